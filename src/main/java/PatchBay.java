@@ -244,8 +244,12 @@ public final class PatchBay {
         int carried = 0;
         for (int i = 0; i < cablesMade; i++) {
             Cable it = cableAt(i);
-            if (it != null && it.in && hasCarried(it)) {
-                carried++;
+            if (it != null && it.in) {
+                int outcome = carry(it);
+                keepBooks(it, outcome);
+                if (outcome == NONE) {
+                    carried++;
+                }
             }
         }
         for (int i = 0; i < CHANNELS; i++) {
@@ -445,7 +449,6 @@ public final class PatchBay {
         return kind >= BITS && kind <= RACKS;
     }
 
-    /** Whether a tape of a kind takes a cell of a kind. */
     private static boolean takes(int tapeKind, int cellKind) {
         switch (tapeKind) {
             case TAGS:
@@ -517,21 +520,18 @@ public final class PatchBay {
 
     // ---- what a tick does
 
-    /** Carries a cable and keeps its books: whether it was neither shut nor refused. */
-    private boolean hasCarried(Cable it) {
-        int outcome = carry(it);
+    private void keepBooks(Cable it, int outcome) {
         if (outcome != NONE && outcome != SHUT) {
             noteFault(it.place, outcome);
             it.strike();
-            return false;
+            return;
         }
         it.strikes = 0;
         if (outcome == SHUT) {
             it.timesShut++;
-            return false;
+        } else {
+            it.timesCarried++;
         }
-        it.timesCarried++;
-        return true;
     }
 
     private int carry(Cable it) {

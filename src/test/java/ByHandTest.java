@@ -209,6 +209,8 @@ public final class ByHandTest {
             Due.is("21 channel " + c, x.sum(c), 0);
         }
         Due.is("21 OUTSIDE leaves why", x.why(), 2);
+        x.sum(3);
+        Due.is("21 why is none", x.why(), 0);
     }
 
     private static void match() {

@@ -62,7 +62,8 @@ public final class CablesTest {
         }
         x.tick();
         Due.is("15 strikes", x.told(0, 5), 1);
-        x.patience(0, 1);
+        Due.is("15 least", x.patience(0, 1), 2);
+        Due.is("15 is", x.told(0, 4), 1);
         Due.is("15 strikes stay", x.told(0, 5), 1);
         Due.is("15 in as it was", x.told(0, 3), 1);
     }
