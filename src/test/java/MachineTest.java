@@ -2,9 +2,10 @@
 public final class MachineTest {
     private static final int RUNS = 8000;
     // With a why() behind each, and what stateIsSame() asks, a run stays within 512 calls.
-    private static final int LEAST_CALLS = 60, MOST_CALLS = 180;
+    private static final int LEAST_CALLS = 60, MOST_CALLS = 160;
     // Few channels, so that calls meet on them.
     private static final int BUSY_CHANNELS = 5;
+    private static final int TAPE = 0, LOOP = 6, STAMP = 7, TAG = 9, RACK = 10, CABLE = 12, PATIENCE = 13;
     private static final int WHY = 21, NUMBER = 22, KIND = 23, OF = 25, FAULT = 27, COUNT = 28;
 
     private static long seed = 20261119;
@@ -56,8 +57,14 @@ public final class MachineTest {
     }
 
     private static long number() {
-        switch (next(6)) {
+        switch (next(7)) {
             case 0: return 0;
+            case 6: {
+                // Just beside what lies halfway between two floats, or two doubles.
+                int high = 24 + next(39);
+                int low = high - (next(2) == 0 || high < 53 ? 24 : 53);
+                return (1L << high) + (1L << low) + next(3) - 1;
+            }
             case 1: return next(300) - 150;
             case 2: return ((long) next(1 << 30) << 33) + next(1 << 30);
             case 3: return Long.MAX_VALUE - next(3) * (1L << next(45));
@@ -74,6 +81,7 @@ public final class MachineTest {
     private static boolean runIsSame() {
         Bay one = new ClassBay();
         Bay two = new MachineBay();
+        if (next(4) > 0 && !laidOut(one, two)) return false;
         int own = LEAST_CALLS + next(MOST_CALLS - LEAST_CALLS);
         for (int i = 0; i < own; i++) {
             int which = chosen();
@@ -85,6 +93,24 @@ public final class MachineTest {
             if (!isSame(one, two, WHY, a, 0)) return false;
         }
         return stateIsSame(one, two);
+    }
+
+    /** Tapes with cells, loops, and cables that last: else most ticks would meet but refusals. */
+    private static boolean laidOut(Bay one, Bay two) {
+        boolean same = true;
+        for (int channel = 0; channel < BUSY_CHANNELS && same; channel++) {
+            int kind = next(11);
+            same = isSame(one, two, TAPE, new int[] {channel, kind, 1 + next(4)}, 0)
+                && isSame(one, two, LOOP, new int[] {channel}, next(4))
+                && isSame(one, two, kind < 8 ? STAMP : TAG, new int[] {channel, 0, kind}, number())
+                && isSame(one, two, kind < 8 ? STAMP : RACK, new int[] {channel, 1, kind < 8 ? kind : 0}, number());
+        }
+        for (int cable = 0; cable < 4 && same; cable++) {
+            int[] ends = {next(4), next(BUSY_CHANNELS), next(BUSY_CHANNELS)};
+            same = isSame(one, two, CABLE, ends, 0)
+                && isSame(one, two, PATIENCE, new int[] {cable, 1 + next(9)}, 0);
+        }
+        return same;
     }
 
     private static boolean stateIsSame(Bay one, Bay two) {
