@@ -65,23 +65,11 @@ public final class PatchBay {
     }
 
     public int plug(int channel) {
-        Channel it = channelAt(channel);
-        if (it == null) {
-            return OUTSIDE;
-        }
-        int had = it.has();
-        it.hold(null, true);
-        return had;
+        return holdNoTape(channel, true);
     }
 
     public int strip(int channel) {
-        Channel it = channelAt(channel);
-        if (it == null) {
-            return OUTSIDE;
-        }
-        int had = it.has();
-        it.hold(null, false);
-        return had;
+        return holdNoTape(channel, false);
     }
 
     public int share(int channel, int other) {
@@ -439,6 +427,16 @@ public final class PatchBay {
 
     private Cable cableAt(int i) {
         return i < 0 || i >= MOST_CABLES ? null : cables[i];
+    }
+
+    private int holdNoTape(int channel, boolean plug) {
+        Channel it = channelAt(channel);
+        if (it == null) {
+            return OUTSIDE;
+        }
+        int had = it.has();
+        it.hold(null, plug);
+        return had;
     }
 
     private static boolean isPlain(int kind) {

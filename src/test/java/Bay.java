@@ -9,4 +9,13 @@ interface Bay {
 
     /** The call at a place of CALLS with its arguments in a row, what is not an int from the last. */
     long call(int which, int[] a, long last);
+
+    /** The call of a name; what is left out of its arguments is 0. */
+    default long named(String name, long last, int... a) {
+        int which = 0;
+        while (!CALLS[which].equals(name)) {
+            which++;
+        }
+        return call(which, java.util.Arrays.copyOf(a, 5), last);
+    }
 }
