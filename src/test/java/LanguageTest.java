@@ -28,6 +28,10 @@ public final class LanguageTest {
     public static void main(String[] args) throws Exception {
         face();
         inside();
+        sizes(PatchBay.class);
+        for (Class<?> inner : PatchBay.class.getDeclaredClasses()) {
+            sizes(inner);
+        }
         words();
         Due.close();
     }
@@ -85,6 +89,18 @@ public final class LanguageTest {
         }
     }
 
+    /** Rule 11: seven parameters, and some twenty fields beside the constants. */
+    private static void sizes(Class<?> of) {
+        int fields = 0;
+        for (Field field : of.getDeclaredFields()) {
+            if (!Modifier.isStatic(field.getModifiers())) fields++;
+        }
+        Due.is(of + " has few fields", fields <= 20 ? 1 : 0, 1);
+        for (Method method : of.getDeclaredMethods()) {
+            Due.is(method + " has few parameters", method.getParameterCount() <= 7 ? 1 : 0, 1);
+        }
+    }
+
     private static void words() throws Exception {
         String source = Files.readString(Path.of("src/main/java/PatchBay.java"));
         String code = source.replaceAll("(?s)/\\*.*?\\*/", " ").replaceAll("//[^\n]*", " ");
@@ -92,8 +108,24 @@ public final class LanguageTest {
         for (String word : RULED_OUT) {
             Due.is("the word " + word, words.contains(word) ? 1 : 0, 0);
         }
+        Due.is("no text, so none is joined", code.contains("\"") ? 1 : 0, 0);
+        Due.is("methods stay short", longestBlock(source.split("\n")) <= 60 ? 1 : 0, 1);
         Due.is("no lambda", code.contains("->") ? 1 : 0, 0);
         Due.is("no method reference", code.contains("::") ? 1 : 0, 0);
         Due.is("plain signs alone", source.chars().allMatch(sign -> sign < 128) ? 1 : 0, 1);
+    }
+
+    /** The most lines from a head of a method to the brace at its own depth. */
+    private static int longestBlock(String[] lines) {
+        int longest = 0;
+        for (int from = 0; from < lines.length; from++) {
+            String line = lines[from];
+            if (!line.endsWith(") {")) continue;
+            String end = " ".repeat(line.length() - line.stripLeading().length()) + "}";
+            int to = from;
+            while (to < lines.length && !lines[to].startsWith(end)) to++;
+            longest = Math.max(longest, to - from + 1);
+        }
+        return longest;
     }
 }
